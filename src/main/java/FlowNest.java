@@ -257,7 +257,9 @@ public final class FlowNest {
             for (int round = 0; round < size && changed; round++) {
                 changed = false;
                 for (int k = Long.bitCount(met) - 1; k >= 0; k--) {
-                    changed |= pushAlong(byLeft[k]);
+                    if (pushAlong(byLeft[k])) {
+                        changed = true;
+                    }
                 }
             }
         }
@@ -267,8 +269,10 @@ public final class FlowNest {
             long row = next[u];
             for (int w = following(row, -1); w < size; w = following(row, w)) {
                 long kept = above[w] & (above[u] | bit(w));
-                changed |= kept != above[w];
-                above[w] = kept;
+                if (kept != above[w]) {
+                    above[w] = kept;
+                    changed = true;
+                }
             }
             return changed;
         }

@@ -345,6 +345,7 @@ public final class PromisesTest {
         dueEach("dominator from 3", v -> x.dominator(v, false), 4, 4, 3, NONE, 3, 4);
         x.place(2, true);
         dueEach("cover to 2", v -> x.dominator(v, true), 1, 2, NONE, 2, 1, NONE);
+        dueEach("depth with another exit", x::depth, 1, 1, 1, 1, 1, 0);
         x.begin(6);
         dueEach("depth after begin", x::depth, 0, 0, 0, 0, 0, 0);
         dueEach("entered after begin", v -> x.order(v, false), 0, NONE, NONE, NONE, NONE, NONE);

@@ -73,6 +73,19 @@ final class Graphs {
         return x;
     }
 
+    /**
+     * A row of all 48, each but the first two with a link to the one before, and 0 with one to the last:
+     * so there are two ways to each of the others, and none of these dominates another.
+     */
+    static FlowNest bothWaysRound() {
+        FlowNest x = row(48);
+        for (int v = 2; v < 48; v++) {
+            x.link(v, v - 1);
+        }
+        x.link(0, 47);
+        return x;
+    }
+
     /** Each question that an object can be asked, with its answer. */
     static String[] answers(FlowNest x) {
         List<String> all = new ArrayList<>();

@@ -111,6 +111,31 @@ public final class Promise06DominatorTest {
         }
     }
 
+    /** "All others that dominate it": not one that only the way found first comes by. */
+    private static void promise06AnotherWayFromBehind() {
+        dueDominators(Graphs.linked(5, 0, 1, 1, 2, 2, 3, 2, 4, 3, 2, 0, 3), NONE, 0, 0, 0, 2);
+        FlowNest x = Graphs.linked(5, 1, 0, 2, 1, 3, 2, 4, 2, 2, 3, 3, 0);
+        x.place(0, true);
+        dueCovers(x, NONE, 0, 0, 0, 2);
+    }
+
+    /** The same, with as many ways from behind as there can be. */
+    private static void promise06BothWaysRound() {
+        FlowNest x = Graphs.bothWaysRound();
+        for (int v = 1; v < 48; v++) {
+            Check.due("dominator " + v, x.dominator(v, false), 0);
+        }
+        FlowNest turned = Graphs.linked(48, 1, 0, 47, 0);
+        for (int v = 1; v < 47; v++) {
+            turned.link(v, v + 1);
+            turned.link(v + 1, v);
+        }
+        turned.place(0, true);
+        for (int v = 1; v < 48; v++) {
+            Check.due("cover " + v, turned.dominator(v, true), 0);
+        }
+    }
+
     /** "IndexOutOfBounds: there is no such vertex." */
     private static void promise06NoSuchVertex() {
         Refused.vertex((x, v) -> x.dominator(v, false));

@@ -114,6 +114,18 @@ public final class Promise07DominatesTest {
         Check.due("32 dominates 31", x.dominates(32, 31, false), false);
     }
 
+    /** "Each way": also the one that comes to v from behind. */
+    private static void promise07EachWay() {
+        FlowNest x = Graphs.linked(5, 0, 1, 1, 2, 2, 3, 2, 4, 3, 2, 0, 3);
+        dueDominated(x, 1, 0, 1, 0, 0, 0);
+        dueDominated(x, 2, 0, 0, 1, 0, 1);
+        FlowNest y = Graphs.bothWaysRound();
+        for (int v = 2; v < 48; v++) {
+            Check.due("1 dominates " + v, y.dominates(1, v, false), false);
+            Check.due("47 dominates " + (v - 1), y.dominates(47, v - 1, false), false);
+        }
+    }
+
     /** "IndexOutOfBounds: there is no such vertex": the first. */
     private static void promise07NoSuchFirst() {
         Refused.vertex((x, v) -> x.dominates(v, 0, false) ? 1 : 0);

@@ -51,6 +51,16 @@ public final class Promise08LevelTest {
         }
     }
 
+    /** Of those on a way only what is on all of them counts. */
+    private static void promise08BothWaysRound() {
+        FlowNest x = Graphs.bothWaysRound();
+        for (int v = 1; v < 48; v++) {
+            Check.due("level " + v, x.level(v), 1);
+        }
+        Check.dueEach("another way from behind",
+                Graphs.linked(5, 0, 1, 1, 2, 2, 3, 2, 4, 3, 2, 0, 3)::level, 0, 1, 1, 1, 2);
+    }
+
     /** "IndexOutOfBounds: there is no such vertex." */
     private static void promise08NoSuchVertex() {
         Refused.vertex(FlowNest::level);

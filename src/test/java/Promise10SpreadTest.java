@@ -61,6 +61,22 @@ public final class Promise10SpreadTest {
         Check.due("up from 47", stepsUp().spread(set(47)), 0);
     }
 
+    /** "And of its own": round a ring, whichever of it is given; 0 is on it, and 47 is the entry. */
+    private static void promise10RoundARing() {
+        FlowNest x = Graphs.linked(48, 46, 0);
+        x.place(47, false);
+        for (int v = 0; v < 47; v++) {
+            x.link(47, v);
+        }
+        for (int v = 0; v < 46; v++) {
+            x.link(v, v + 1);
+        }
+        for (int v = 0; v < 47; v++) {
+            Check.due("from " + v, x.spread(1L << v), Graphs.span(0, 46));
+        }
+        Check.due("from the entry", x.spread(1L << 47), 0);
+    }
+
     /** "The least set": a vertex of the first set that is in no frontier is not in it. */
     private static void promise10Least() {
         FlowNest x = Graphs.branchInLoop();

@@ -51,6 +51,17 @@ public final class Promise17IsReducibleTest {
         Check.due("one way in, down", down.isReducible(), true);
     }
 
+    /** A ring with two ways in that 0 is on, or the last, from each entry beside it. */
+    private static void promise17RingOfFirstAndLast() {
+        for (int entry = 1; entry < 47; entry++) {
+            FlowNest x = Graphs.linked(48, entry, 0, entry, 47, 0, 47, 47, 0);
+            x.place(entry, false);
+            Check.due("two ways in from " + entry, x.isReducible(), false);
+            x.link(entry, 47);
+            Check.due("one way in from " + entry, x.isReducible(), true);
+        }
+    }
+
     /** "True without vertices." */
     private static void promise17NoVertices() {
         Check.due("isReducible", new FlowNest().isReducible(), true);

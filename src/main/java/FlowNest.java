@@ -82,8 +82,10 @@ public final class FlowNest {
         long[] covers = worked(true).above;
         long row = fromEntry.next[u];
         long found = 0;
-        for (int w = following(row, -1); w < size; w = following(row, w)) {
-            found |= covers[w];
+        for (int w = 0; w < size; w++) {
+            if (has(row, w)) {
+                found |= covers[w];
+            }
         }
         return found & ~(covers[u] & ~bit(u));
     }
@@ -267,20 +269,22 @@ public final class FlowNest {
         private boolean pushAlong(int u) {
             boolean changed = false;
             long row = next[u];
-            for (int w = following(row, -1); w < size; w = following(row, w)) {
+            int w = following(row, -1);
+            for (int step = 0; step < size && w < size; step++) {
                 long kept = above[w] & (above[u] | bit(w));
                 if (kept != above[w]) {
                     above[w] = kept;
                     changed = true;
                 }
+                w = following(row, w);
             }
             return changed;
         }
 
         int closestAbove(int v) {
             long others = above[v] & ~bit(v);
-            for (int u = following(others, -1); u < size; u = following(others, u)) {
-                if (above[u] == others) {
+            for (int u = 0; u < size; u++) {
+                if (has(others, u) && above[u] == others) {
                     return u;
                 }
             }
@@ -349,10 +353,12 @@ public final class FlowNest {
         private static long bodyOf(int v, Side side, long[] sources) {
             long back = 0;
             long row = sources[v];
-            for (int u = following(row, -1); u < side.size; u = following(row, u)) {
+            int u = following(row, -1);
+            for (int step = 0; step < side.size && u < side.size; step++) {
                 if (has(side.above[u], v)) {
                     back |= bit(u);
                 }
+                u = following(row, u);
             }
             if (back == 0) {
                 return 0;

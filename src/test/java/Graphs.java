@@ -86,6 +86,15 @@ final class Graphs {
         return x;
     }
 
+    /** All links that there can be of 16 vertices, which leaves half of the 512 calls for questions. */
+    static FlowNest full() {
+        FlowNest x = linked(16);
+        for (int i = 0; i < 256; i++) {
+            x.link(i / 16, i % 16);
+        }
+        return x;
+    }
+
     /** Each question that an object can be asked, with its answer. */
     static String[] answers(FlowNest x) {
         List<String> all = new ArrayList<>();

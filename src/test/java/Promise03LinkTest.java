@@ -94,6 +94,19 @@ public final class Promise03LinkTest {
         Check.due("links", x.told(1), 510);
     }
 
+    /** "Each there or not": all of them there, and then all not. */
+    private static void promise03Full() {
+        FlowNest x = Graphs.linked(15);
+        for (int i = 0; i < 225; i++) {
+            Check.due("link " + i, x.link(i / 15, i % 15), 1);
+        }
+        Check.due("all links", x.told(1), 225);
+        for (int i = 0; i < 225; i++) {
+            Check.due("link " + i + " away", x.link(i / 15, i % 15), 0);
+        }
+        Check.due("no links", x.told(1), 0);
+    }
+
     /** "IndexOutOfBounds: there is no such vertex": the first. */
     private static void promise03NoSuchFrom() {
         Refused.vertex((x, v) -> x.link(v, 0));

@@ -85,6 +85,15 @@ public final class Promise05IsReachedTest {
         dueEnds(x, 0, 0, 1);
     }
 
+    /** All links that there can be. */
+    private static void promise05Full() {
+        FlowNest x = Graphs.full();
+        for (int v = 0; v < 16; v++) {
+            Check.due(v + " is reached", x.isReached(v, false), true);
+            Check.due(v + " ends", x.isReached(v, true), true);
+        }
+    }
+
     /** "IndexOutOfBounds: there is no such vertex." */
     private static void promise05NoSuchVertex() {
         Refused.vertex((x, v) -> x.isReached(v, false) ? 1 : 0);

@@ -136,6 +136,17 @@ public final class Promise06DominatorTest {
         }
     }
 
+    /** All links that there can be: a way of one link leads from the entry to each, and to the exit. */
+    private static void promise06Full() {
+        FlowNest x = Graphs.full();
+        for (int v = 0; v < 16; v++) {
+            Check.due("dominator " + v, x.dominator(v, false), v == 0 ? NONE : 0);
+            Check.due("cover " + v, x.dominator(v, true), v == 15 ? NONE : 15);
+        }
+        FlowNest row = Graphs.linked(4, 0, 0, 0, 1, 0, 2, 0, 3, 1, 2, 2, 3);
+        dueDominators(row, NONE, 0, 0, 0);
+    }
+
     /** "IndexOutOfBounds: there is no such vertex." */
     private static void promise06NoSuchVertex() {
         Refused.vertex((x, v) -> x.dominator(v, false));

@@ -126,6 +126,19 @@ public final class Promise07DominatesTest {
         }
     }
 
+    /** All links that there can be: but for the entry, or the exit, each has only itself. */
+    private static void promise07Full() {
+        FlowNest x = Graphs.full();
+        for (int v = 0; v < 16; v++) {
+            Check.due("0 dominates " + v, x.dominates(0, v, false), true);
+            Check.due("15 covers " + v, x.dominates(15, v, true), true);
+            Check.due("8 dominates " + v, x.dominates(8, v, false), v == 8);
+            Check.due("15 dominates " + v, x.dominates(15, v, false), v == 15);
+            Check.due("0 covers " + v, x.dominates(0, v, true), v == 0);
+            Check.due("8 covers " + v, x.dominates(8, v, true), v == 8);
+        }
+    }
+
     /** "IndexOutOfBounds: there is no such vertex": the first. */
     private static void promise07NoSuchFirst() {
         Refused.vertex((x, v) -> x.dominates(v, 0, false) ? 1 : 0);

@@ -61,6 +61,14 @@ public final class Promise08LevelTest {
                 Graphs.linked(5, 0, 1, 1, 2, 2, 3, 2, 4, 3, 2, 0, 3)::level, 0, 1, 1, 1, 2);
     }
 
+    /** All links that there can be. */
+    private static void promise08Full() {
+        FlowNest x = Graphs.full();
+        for (int v = 0; v < 16; v++) {
+            Check.due("level " + v, x.level(v), v == 0 ? 0 : 1);
+        }
+    }
+
     /** "IndexOutOfBounds: there is no such vertex." */
     private static void promise08NoSuchVertex() {
         Refused.vertex(FlowNest::level);

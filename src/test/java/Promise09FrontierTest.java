@@ -79,6 +79,14 @@ public final class Promise09FrontierTest {
         }
     }
 
+    /** All links that there can be: the entry dominates all but has itself, each other has all. */
+    private static void promise09Full() {
+        FlowNest x = Graphs.full();
+        for (int v = 0; v < 16; v++) {
+            Check.due("frontier " + v, x.frontier(v), v == 0 ? set(0) : Graphs.span(0, 15));
+        }
+    }
+
     /** "IndexOutOfBounds: there is no such vertex." */
     private static void promise09NoSuchVertex() {
         Refused.vertex(FlowNest::frontier);

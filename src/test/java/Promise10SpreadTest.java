@@ -152,6 +152,15 @@ public final class Promise10SpreadTest {
         Check.due("of 5, 7", x.spread(set(5, 7)), set(5));
     }
 
+    /** All links that there can be. */
+    private static void promise10Full() {
+        FlowNest x = Graphs.full();
+        Check.due("of 0", x.spread(set(0)), set(0));
+        Check.due("of 15", x.spread(set(15)), Graphs.span(0, 15));
+        Check.due("of all bits", x.spread(-1L), Graphs.span(0, 15));
+        Check.due("of none", x.spread(0L), 0);
+    }
+
     /** "Vertex v by the bit 2^v": the last, given and answered. */
     private static void promise10LastBit() {
         FlowNest x = Graphs.mostNested();

@@ -82,6 +82,14 @@ public final class Promise11ControlsTest {
         Check.due("controls 0", x.controls(0), 0);
     }
 
+    /** All links that there can be: on the exit all depend, on each other all but the exit. */
+    private static void promise11Full() {
+        FlowNest x = Graphs.full();
+        for (int v = 0; v < 16; v++) {
+            Check.due("controls " + v, x.controls(v), Graphs.span(0, v == 15 ? 15 : 14));
+        }
+    }
+
     /** "IndexOutOfBounds: there is no such vertex." */
     private static void promise11NoSuchVertex() {
         Refused.vertex(FlowNest::controls);

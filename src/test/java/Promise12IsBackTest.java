@@ -77,6 +77,17 @@ public final class Promise12IsBackTest {
         Check.due("2 to 1 from 1", y.isBack(2, 1), true);
     }
 
+    /** All links that there can be: those to the entry go back, and those to itself. */
+    private static void promise12Full() {
+        FlowNest x = Graphs.full();
+        for (int v = 0; v < 16; v++) {
+            Check.due(v + " to 0", x.isBack(v, 0), true);
+            Check.due(v + " to itself", x.isBack(v, v), true);
+            Check.due(v + " to 8", x.isBack(v, 8), v == 8);
+            Check.due("8 to " + v, x.isBack(8, v), v == 0 || v == 8);
+        }
+    }
+
     /** "IndexOutOfBounds: there is no such vertex": the first. */
     private static void promise12NoSuchFrom() {
         Refused.vertex((x, v) -> x.isBack(v, 0) ? 1 : 0);

@@ -102,6 +102,14 @@ public final class Promise13LoopTest {
         Check.due("no more from the first", ring.loop(0), 0);
     }
 
+    /** All links that there can be: all are in that of the entry, and each other has its own. */
+    private static void promise13Full() {
+        FlowNest x = Graphs.full();
+        for (int v = 0; v < 16; v++) {
+            Check.due("loop " + v, x.loop(v), v == 0 ? Graphs.span(0, 15) : set(v));
+        }
+    }
+
     /** "IndexOutOfBounds: there is no such vertex." */
     private static void promise13NoSuchVertex() {
         Refused.vertex(FlowNest::loop);

@@ -68,6 +68,11 @@ public final class Promise14LoopsTest {
         Check.due("apart", x.loops(), 48);
     }
 
+    /** All links that there can be. */
+    private static void promise14Full() {
+        Check.due("loops", Graphs.full().loops(), 16);
+    }
+
     /** None are left of what was there before begin. */
     private static void promise14AfterBegin() {
         FlowNest x = Graphs.mostNested();

@@ -60,6 +60,14 @@ public final class Promise15DepthTest {
         Check.dueEach("without 3 to 2", x::depth, 0, 0, 0, 0, 0, 0);
     }
 
+    /** All links that there can be. */
+    private static void promise15Full() {
+        FlowNest x = Graphs.full();
+        for (int v = 0; v < 16; v++) {
+            Check.due("depth " + v, x.depth(v), v == 0 ? 1 : 2);
+        }
+    }
+
     /** "IndexOutOfBounds: there is no such vertex." */
     private static void promise15NoSuchVertex() {
         Refused.vertex(FlowNest::depth);

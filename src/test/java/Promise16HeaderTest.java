@@ -93,6 +93,15 @@ public final class Promise16HeaderTest {
         Check.due("inner of 3 without 0's", x.header(3, false), NONE);
     }
 
+    /** All links that there can be. */
+    private static void promise16Full() {
+        FlowNest x = Graphs.full();
+        for (int v = 0; v < 16; v++) {
+            Check.due("inner " + v, x.header(v, false), v);
+            Check.due("outer " + v, x.header(v, true), v == 0 ? NONE : 0);
+        }
+    }
+
     /** "IndexOutOfBounds: there is no such vertex." */
     private static void promise16NoSuchVertex() {
         Refused.vertex((x, v) -> x.header(v, false));

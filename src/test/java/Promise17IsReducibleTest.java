@@ -104,6 +104,15 @@ public final class Promise17IsReducibleTest {
         Check.due("isReducible with 3 reached", x.isReducible(), false);
     }
 
+    /** All links that there can be: with three vertices there is a ring with two ways in. */
+    private static void promise17Full() {
+        Check.due("of 1", Graphs.linked(1, 0, 0).isReducible(), true);
+        Check.due("of 2", Graphs.linked(2, 0, 0, 0, 1, 1, 0, 1, 1).isReducible(), true);
+        FlowNest three = Graphs.linked(3, 0, 0, 0, 1, 0, 2, 1, 0, 1, 1, 1, 2, 2, 0, 2, 1, 2, 2);
+        Check.due("of 3", three.isReducible(), false);
+        Check.due("of 16", Graphs.full().isReducible(), false);
+    }
+
     /** After begin there is no ring. */
     private static void promise17AfterBegin() {
         FlowNest x = Graphs.twoWaysIn();

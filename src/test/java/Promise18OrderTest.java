@@ -126,6 +126,19 @@ public final class Promise18OrderTest {
         dueLeft(x, 6, 5, 3, 4, 2, 1, 0, NONE);
     }
 
+    /** All links that there can be: upwards, and back. */
+    private static void promise18Full() {
+        FlowNest x = Graphs.full();
+        for (int v = 0; v < 16; v++) {
+            Check.due("entered " + v, x.order(v, false), v);
+            Check.due("left " + v, x.order(v, true), 15 - v);
+        }
+        x.place(8, false);
+        for (int v = 0; v < 16; v++) {
+            Check.due("entered from 8, " + v, x.order(v, false), v == 8 ? 0 : v < 8 ? v + 1 : v);
+        }
+    }
+
     /** "IndexOutOfBounds: there is no such vertex." */
     private static void promise18NoSuchVertex() {
         Refused.vertex((x, v) -> x.order(v, false));

@@ -106,6 +106,11 @@ public final class Promise19ToldTest {
         Check.due("told(-1)", x.told(-1), NONE);
     }
 
+    /** All links that there can be. */
+    private static void promise19Full() {
+        dueTold(Graphs.full(), 16, 256, 16, 16, 0, 15);
+    }
+
     /** To be told changes nothing. */
     private static void promise19ChangesNothing() {
         FlowNest x = Graphs.branchInLoop();
